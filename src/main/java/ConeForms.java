@@ -630,13 +630,13 @@ public final class ConeForms {
             if (ARITY[kind[k]] == 0) {
                 return kind[k] == VARIABLE ? AFFINE : CONSTANT;
             }
-            if (flattest(k) == CONSTANT) {
+            if (mostBent(k) == CONSTANT) {
                 return CONSTANT;
             }
             if (isProductOfTwo(k)) {
                 return UNKNOWN;
             }
-            if (isLinear(k) && flattest(k) == AFFINE) {
+            if (isLinear(k) && mostBent(k) == AFFINE) {
                 return AFFINE;
             }
             if (kind[k] != MIN && firstAgainst(k, CONVEX) == NONE) {
@@ -646,13 +646,13 @@ public final class ConeForms {
             return mayBeConcave && firstAgainst(k, CONCAVE) == NONE ? CONCAVE : UNKNOWN;
         }
 
-        /** CONSTANT if all arguments are, AFFINE if all are that or CONSTANT, else UNKNOWN. */
-        private int flattest(int k) {
+        /** CONSTANT if all arguments are, AFFINE if all are that or CONSTANT, else something above. */
+        private int mostBent(int k) {
             int found = CONSTANT;
             for (int i = 0; i < ARITY[kind[k]]; i++) {
                 found = Math.max(found, curvature[argument(k, i)]);
             }
-            return found <= AFFINE ? found : UNKNOWN;
+            return found;
         }
 
         private boolean isLinear(int k) {

@@ -20,6 +20,7 @@ public final class FormTest {
         squareEdges();
         costs();
         greatNumbers();
+        fullDesk();
         CHECK.finish();
     }
 
@@ -374,5 +375,37 @@ public final class FormTest {
         fitsAt(desk, 1, 1000000, false);
         desk.set(1, 65536);
         CHECK.due("fits(): 2 * 50 * 65536 squared", desk.fits(), false);
+    }
+
+    /** All 36 nodes, 35 of them PAIRS, and six requirements: the most rows that there can be. */
+    private static void fullDesk() {
+        CHECK.about("promises 14 to 21 on a full desk");
+        ConeForms desk = Check.deskOf("x");
+        for (int k = 0; k < 35; k++) {
+            CHECK.due("read()", Check.read(desk, "P(x,x,#" + k + ")"), k + 1);
+        }
+        desk.objective(35, true);
+        for (int j = 0; j < 6; j++) {
+            desk.require(j > 3, 0, 0);
+        }
+        CHECK.due("compile()", desk.compile(), 36);
+        rowCounts(desk, 2, 109, 0);
+        CHECK.due("set(0, 2)", desk.set(0, 2), true);
+        CHECK.due("value(35)", desk.value(35), 72);
+        CHECK.due("feasible()", desk.feasible(), true);
+        CHECK.due("fits()", desk.fits(), false);
+        CHECK.due("lift()", desk.lift(), true);
+        CHECK.due("fits()", desk.fits(), true);
+        CHECK.due("cost()", desk.cost(), 72);
+        for (int k = 1; k <= 35; k++) {
+            int last = 6 + 3 * (k - 1) + 2;
+            CHECK.due("column(" + k + ")", desk.column(k), k);
+            CHECK.due("entry(" + last + ", " + k + ")", desk.entry(last, k), 1);
+            CHECK.due("entry(" + last + ", 0)", desk.entry(last, 0), k == 1 ? -2 : -1);
+            CHECK.due("entry(" + last + ", " + (k - 1) + ")", desk.entry(last, k - 1), k == 1 ? -2 : -1);
+        }
+        CHECK.due("entry(111, 35): there is no such row", desk.entry(111, 35), 0);
+        CHECK.due("set(35, 71)", desk.set(35, 71), true);
+        CHECK.due("fits(): the last rows", desk.fits(), false);
     }
 }
