@@ -25,9 +25,9 @@ public final class FormTest {
     }
 
     /** A desk whose form has the last text's node as its objective. */
-    private static ConeForms least(String... texts) {
-        ConeForms desk = Check.deskOf(texts);
-        desk.objective(Check.read(desk, texts[texts.length - 1]), true);
+    private static Desk least(String... texts) {
+        Desk desk = Desk.of(texts);
+        desk.objective(desk.read(texts[texts.length - 1]), true);
         if (desk.compile() < 0) {
             throw new IllegalArgumentException("the test's own problem is refused");
         }
@@ -35,14 +35,14 @@ public final class FormTest {
     }
 
     /** The row's constant, then its numbers. */
-    private static void row(ConeForms desk, int row, int... numbers) {
+    private static void row(Desk desk, int row, int... numbers) {
         for (int i = 0; i < numbers.length; i++) {
             CHECK.due("entry(" + row + ", " + (i - 1) + ")", desk.entry(row, i - 1), numbers[i]);
         }
         CHECK.due("entry behind the last column", desk.entry(row, numbers.length - 1), 0);
     }
 
-    private static void rowCounts(ConeForms desk, int zero, int bound, int square) {
+    private static void rowCounts(Desk desk, int zero, int bound, int square) {
         CHECK.due("rows(0)", desk.rows(0), zero);
         CHECK.due("rows(1)", desk.rows(1), bound);
         CHECK.due("rows(2)", desk.rows(2), square);
@@ -54,7 +54,7 @@ public final class FormTest {
 
     private static void columns() {
         CHECK.about("promise 17");
-        ConeForms desk = least("A(z)", "y", "M(#1,S(y))+z");
+        Desk desk = least("A(z)", "y", "M(#1,S(y))+z");
         CHECK.due("compile()", desk.compile(), 5);
         int[] want = {0, 2, 1, 3, 4, -1};
         for (int k = 0; k < want.length; k++) {
@@ -67,7 +67,7 @@ public final class FormTest {
 
     private static void inUse() {
         CHECK.about("promise 17, in use");
-        ConeForms desk = Check.deskOf("x", "A(y)", "S(z)", "p*u", "5");
+        Desk desk = Desk.of("x", "A(y)", "S(z)", "p*u", "5");
         int number = desk.nodes() - 1;
         desk.objective(0, true);
         desk.require(false, 2, number);
@@ -90,14 +90,14 @@ public final class FormTest {
 
     private static void rowsOfMaxAndMin() {
         CHECK.about("promise 16, MAX and MIN");
-        ConeForms desk = least("M(x+1,3-y)");
+        Desk desk = least("M(x+1,3-y)");
         row(desk, 0, -1, -1, 0, 1);
         row(desk, 1, -3, 0, 1, 1);
         row(desk, -1, 0, 0, 0, 1);
         CHECK.about("promise 15");
         rowCounts(desk, 0, 2, 0);
         CHECK.about("promise 16, MAX and MIN");
-        desk = Check.deskOf("L(x+1,3-y)");
+        desk = Desk.of("L(x+1,3-y)");
         desk.objective(desk.nodes() - 1, false);
         desk.compile();
         row(desk, 0, 1, 1, 0, -1);
@@ -109,7 +109,7 @@ public final class FormTest {
 
     private static void rowsOfAbsAndPairs() {
         CHECK.about("promise 16, ABS and PAIRS");
-        ConeForms desk = least("A(2*x-5)");
+        Desk desk = least("A(2*x-5)");
         row(desk, 0, 5, -2, 1);
         row(desk, 1, -5, 2, 1);
         CHECK.about("promise 15");
@@ -130,7 +130,7 @@ public final class FormTest {
 
     private static void rowsOfSquare() {
         CHECK.about("promise 16, SQUARE");
-        ConeForms desk = least("S(3*x-4)");
+        Desk desk = least("S(3*x-4)");
         row(desk, 0, 1, 0, 1);
         row(desk, 1, 1, 0, -1);
         row(desk, 2, -8, 6, 0);
@@ -140,7 +140,7 @@ public final class FormTest {
 
     private static void orderOfRows() {
         CHECK.about("promise 16, order");
-        ConeForms desk = least("S(x)", "A(x)", "S(#2)", "P(x,#1,#3)");
+        Desk desk = least("S(x)", "A(x)", "S(#2)", "P(x,#1,#3)");
         rowCounts(desk, 0, 5, 6);
         row(desk, 0, 0, -1, 0, 1, 0, 0);
         row(desk, 1, 0, 1, 0, 1, 0, 0);
@@ -158,7 +158,7 @@ public final class FormTest {
 
     private static void requirementRows() {
         CHECK.about("promise 16, requirements");
-        ConeForms desk = Check.deskOf("x", "y", "3", "A(x)", "x+y");
+        Desk desk = Desk.of("x", "y", "3", "A(x)", "x+y");
         desk.objective(0, true);
         desk.require(false, 3, 2);
         desk.require(true, 0, 2);
@@ -178,7 +178,7 @@ public final class FormTest {
 
     private static void expansions() {
         CHECK.about("promise 16, expansions");
-        ConeForms desk = least("A(x)", "4-(-x+#1*3)*-2");
+        Desk desk = least("A(x)", "4-(-x+#1*3)*-2");
         row(desk, -1, 4, -2, 6);
         desk = least("2*(x+5)*3-(y-x)");
         row(desk, -1, 30, 7, -1);
@@ -191,7 +191,7 @@ public final class FormTest {
 
     private static void parametersAsTheyAreNow() {
         CHECK.about("promise 16, parameters");
-        ConeForms desk = least("r*x+p*A(q*x+r)+q");
+        Desk desk = least("r*x+p*A(q*x+r)+q");
         int r = 0;
         int p = 3;
         int q = 4;
@@ -211,7 +211,7 @@ public final class FormTest {
 
     private static void constantAuxiliary() {
         CHECK.about("promise 17, CONSTANT");
-        ConeForms desk = least("M(p,3)*x+S(r)");
+        Desk desk = least("M(p,3)*x+S(r)");
         CHECK.due("compile(): x alone", desk.compile(), 1);
         rowCounts(desk, 0, 0, 0);
         row(desk, -1, 0, 3);
@@ -228,7 +228,7 @@ public final class FormTest {
 
     private static void outside() {
         CHECK.about("promise 16, outside");
-        ConeForms desk = least("S(x)+4");
+        Desk desk = least("S(x)+4");
         int[] beyond = {-2, -3, 3, 113, 114, 115, Integer.MIN_VALUE, Integer.MAX_VALUE};
         for (int row : beyond) {
             CHECK.due("entry(" + row + ", -1)", desk.entry(row, -1), 0);
@@ -243,7 +243,7 @@ public final class FormTest {
     }
 
     private static void noForm() {
-        ConeForms desk = least("A(x)+4");
+        Desk desk = least("A(x)+4");
         desk.objective(0, true);
         CHECK.about("promise 15");
         CHECK.due("rows(1) without a form", desk.rows(1), 0);
@@ -266,7 +266,7 @@ public final class FormTest {
 
     private static void lifting() {
         CHECK.about("promise 18");
-        ConeForms desk = least("A(x)", "S(y)+#1");
+        Desk desk = least("A(x)", "S(y)+#1");
         desk.set(0, -7);
         desk.set(2, 4);
         CHECK.due("cost() before", desk.cost(), 0);
@@ -282,28 +282,28 @@ public final class FormTest {
         CHECK.due("cost(): compile makes own values 0", desk.cost(), 0);
     }
 
-    private static void fitsAt(ConeForms desk, int node, int own, boolean want) {
+    private static void fitsAt(Desk desk, int node, int own, boolean want) {
         CHECK.due("set(" + node + ", " + own + ")", desk.set(node, own), true);
         CHECK.due("fits() with own value " + own, desk.fits(), want);
     }
 
     private static void fitting() {
         CHECK.about("promise 19");
-        ConeForms desk = least("A(x)");
+        Desk desk = least("A(x)");
         desk.set(0, -7);
         fitsAt(desk, 1, 6, false);
         fitsAt(desk, 1, 7, true);
         fitsAt(desk, 1, 8, true);
         desk.set(0, 9);
         CHECK.due("fits() follows the variable", desk.fits(), false);
-        desk = Check.deskOf("L(x,2)");
+        desk = Desk.of("L(x,2)");
         desk.objective(2, false);
         desk.compile();
         desk.set(0, 5);
         fitsAt(desk, 2, 2, true);
         fitsAt(desk, 2, 3, false);
         fitsAt(desk, 2, -9, true);
-        desk = Check.deskOf("x", "2", "y");
+        desk = Desk.of("x", "2", "y");
         desk.objective(0, true);
         desk.require(true, 0, 1);
         desk.require(false, 2, 0);
@@ -321,7 +321,7 @@ public final class FormTest {
 
     private static void squareEdges() {
         CHECK.about("promise 19, SQUARE");
-        ConeForms desk = least("S(x)");
+        Desk desk = least("S(x)");
         fitsAt(desk, 1, 0, true);
         fitsAt(desk, 1, -1, false);
         fitsAt(desk, 1, -2, false);
@@ -343,11 +343,11 @@ public final class FormTest {
 
     private static void costs() {
         CHECK.about("promise 20");
-        ConeForms desk = least("A(x)", "3*#1-2*x+5");
+        Desk desk = least("A(x)", "3*#1-2*x+5");
         desk.set(0, 4);
         desk.set(1, -10);
         CHECK.due("cost()", desk.cost(), -33);
-        desk = Check.deskOf("L(x,y)-S(y)*p");
+        desk = Desk.of("L(x,y)-S(y)*p");
         desk.objective(desk.nodes() - 1, false);
         desk.compile();
         desk.set(0, -3);
@@ -360,7 +360,7 @@ public final class FormTest {
 
     private static void greatNumbers() {
         CHECK.about("promise 20, great numbers");
-        ConeForms desk = least("999*50*A(x)");
+        Desk desk = least("999*50*A(x)");
         int aux = 4;
         CHECK.due("set", desk.set(aux, 1000000), true);
         CHECK.due("cost() beyond an int", desk.cost(), 49950000000L);
@@ -380,9 +380,9 @@ public final class FormTest {
     /** All 36 nodes, 35 of them PAIRS, and six requirements: the most rows that there can be. */
     private static void fullDesk() {
         CHECK.about("promises 14 to 21 on a full desk");
-        ConeForms desk = Check.deskOf("x");
+        Desk desk = Desk.of("x");
         for (int k = 0; k < 35; k++) {
-            CHECK.due("read()", Check.read(desk, "P(x,x,#" + k + ")"), k + 1);
+            CHECK.due("read()", desk.read("P(x,x,#" + k + ")"), k + 1);
         }
         desk.objective(35, true);
         for (int j = 0; j < 6; j++) {
@@ -398,11 +398,12 @@ public final class FormTest {
         CHECK.due("fits()", desk.fits(), true);
         CHECK.due("cost()", desk.cost(), 72);
         for (int k = 1; k <= 35; k++) {
+            Desk twin = desk.again();
             int last = 6 + 3 * (k - 1) + 2;
-            CHECK.due("column(" + k + ")", desk.column(k), k);
-            CHECK.due("entry(" + last + ", " + k + ")", desk.entry(last, k), 1);
-            CHECK.due("entry(" + last + ", 0)", desk.entry(last, 0), k == 1 ? -2 : -1);
-            CHECK.due("entry(" + last + ", " + (k - 1) + ")", desk.entry(last, k - 1), k == 1 ? -2 : -1);
+            CHECK.due("column(" + k + ")", twin.column(k), k);
+            CHECK.due("entry(" + last + ", " + k + ")", twin.entry(last, k), 1);
+            CHECK.due("entry(" + last + ", 0)", twin.entry(last, 0), k == 1 ? -2 : -1);
+            CHECK.due("entry(" + last + ", " + (k - 1) + ")", twin.entry(last, k - 1), k == 1 ? -2 : -1);
         }
         CHECK.due("entry(111, 35): there is no such row", desk.entry(111, 35), 0);
         CHECK.due("set(35, 71)", desk.set(35, 71), true);

@@ -12,7 +12,7 @@ public final class LineTest {
 
     private static void newObject() {
         CHECK.about("promise 1");
-        ConeForms desk = new ConeForms();
+        Desk desk = new Desk();
         CHECK.due("nodes()", desk.nodes(), 0);
         CHECK.due("read() of the empty line", desk.read(), -1);
         CHECK.due("compile() without objective", desk.compile(), -1);
@@ -26,16 +26,16 @@ public final class LineTest {
         for (int cone = -1; cone <= 3; cone++) {
             CHECK.due("rows(" + cone + ")", desk.rows(cone), 0);
         }
-        Check.read(desk, "x+1");
-        CHECK.due("nodes() of another new object", new ConeForms().nodes(), 0);
+        desk.read("x+1");
+        CHECK.due("nodes() of another new object", new Desk().nodes(), 0);
     }
 
     private static void typedCharacters() {
         CHECK.about("promise 2");
         for (int c = 0; c <= 0xFFFF; c++) {
-            CHECK.due("type((char) " + c + ")", new ConeForms().type((char) c), c >= 33 && c <= 126);
+            CHECK.due("type((char) " + c + ")", new Desk().type((char) c), c >= 33 && c <= 126);
         }
-        ConeForms desk = new ConeForms();
+        Desk desk = new Desk();
         desk.type('4');
         CHECK.due("type(' ')", desk.type(' '), false);
         desk.type('2');
@@ -45,7 +45,7 @@ public final class LineTest {
 
     private static void fullLine() {
         CHECK.about("promise 2");
-        ConeForms desk = new ConeForms();
+        Desk desk = new Desk();
         for (int i = 0; i < 19; i++) {
             CHECK.due("type('-') as number " + i, desk.type('-'), true);
         }
@@ -58,7 +58,7 @@ public final class LineTest {
 
     private static void wiping() {
         CHECK.about("promise 3");
-        ConeForms desk = new ConeForms();
+        Desk desk = new Desk();
         for (int i = 0; i < 20; i++) {
             desk.type('7');
         }

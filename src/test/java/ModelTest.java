@@ -1,8 +1,11 @@
-/** Long runs of mixed calls: every answer of the program is the model's. */
+/** Runs of 512 mixed calls, all that an object is used for: every answer of the program is the model's. */
 public final class ModelTest {
     private static final Check CHECK = new Check();
-    private static final int RUNS = 1500;
+    private static final int RUNS = 12000;
     private static final int CALLS = 512;
+    private static final int LINE = 20;
+    /** A line wiped, typed and read, and what is asked of its nodes, takes no more calls than this. */
+    private static final int CALLS_FOR_A_LINE = 120;
     private static final String TYPED = "uvwxyzpqr0123456789##+-*(),ASMLP";
     private static final String[] GIVEN = {
         "A(x)", "S(y)", "M(x,y)", "L(x,y)", "P(x,y,z)", "x*y", "r*A(x)", "p*S(x+y)", "q*L(u,v)",
@@ -11,6 +14,7 @@ public final class ModelTest {
     };
 
     private long seed;
+    private int calls;
     private ConeForms desk;
     private Model model;
 
@@ -33,14 +37,26 @@ public final class ModelTest {
         desk = new ConeForms();
         model = new Model();
         int style = number % 4;
-        for (int call = 0; call < CALLS; call++) {
+        while (calls < CALLS) {
             step(style);
         }
+        if (calls > CALLS) {
+            throw new IllegalStateException("the test itself calls an object more than " + CALLS + " times");
+        }
+    }
+
+    private void same(String call, long got, long want) {
+        calls++;
+        CHECK.due(call, got, want);
+    }
+
+    private void same(String call, boolean got, boolean want) {
+        same(call, got ? 1 : 0, want ? 1 : 0);
     }
 
     private void step(int style) {
         int what = pick(100);
-        if (what < 4 + 8 * style) {
+        if (what < 4 + 8 * style && CALLS - calls >= CALLS_FOR_A_LINE) {
             typeLine(style);
         } else if (what < 40) {
             change();
@@ -54,29 +70,52 @@ public final class ModelTest {
         if (pick(3) > 0) {
             desk.wipe();
             model.wipe();
+            calls++;
         }
-        int way = pick(10);
-        String text = way < 4 ? GIVEN[pick(GIVEN.length)] : way < 9 ? expression(2 + pick(3)) : noise();
+        int before = model.nodes();
+        String text = text();
         if (pick(8) == 0 && !text.isEmpty()) {
             int at = pick(text.length());
             text = text.substring(0, at) + TYPED.charAt(pick(TYPED.length())) + text.substring(at + pick(2));
         }
         for (int i = 0; i < text.length(); i++) {
             char c = text.charAt(i);
-            CHECK.due("type " + c, desk.type(c), model.type(c));
+            same("type " + c, desk.type(c), model.type(c));
         }
-        CHECK.due("read of " + text, desk.read(), model.read());
-        CHECK.due("nodes()", desk.nodes(), model.nodes());
-        for (int k = -1; k <= desk.nodes(); k++) {
-            CHECK.due("attributes(" + k + ")", desk.attributes(k), model.attributes(k));
-            CHECK.due("reach(" + k + ")", desk.reach(k), model.reach(k));
-            CHECK.due("culprit(" + k + ")", desk.culprit(k), model.culprit(k));
+        same("read of " + text, desk.read(), model.read());
+        same("nodes()", desk.nodes(), model.nodes());
+        for (int k = before; k < model.nodes(); k++) {
+            askOfNode(k);
         }
+        askOfNode(node());
+    }
+
+    /** At most two characters more than a line holds. */
+    private String text() {
+        int way = pick(10);
+        if (way < 4) {
+            return GIVEN[pick(GIVEN.length)];
+        }
+        String text = noise();
+        for (int tries = 0; tries < 6 && way < 9; tries++) {
+            text = expression(2 + pick(3));
+            if (text.length() <= LINE) {
+                return text;
+            }
+        }
+        return text.substring(0, Math.min(LINE + 2, text.length()));
+    }
+
+    private void askOfNode(int k) {
+        same("attributes(" + k + ")", desk.attributes(k), model.attributes(k));
+        same("reach(" + k + ")", desk.reach(k), model.reach(k));
+        same("culprit(" + k + ")", desk.culprit(k), model.culprit(k));
+        same("value(" + k + ")", desk.value(k), model.value(k));
     }
 
     private String noise() {
         StringBuilder text = new StringBuilder();
-        int length = pick(22);
+        int length = pick(LINE + 3);
         for (int i = 0; i < length; i++) {
             text.append(TYPED.charAt(pick(TYPED.length())));
         }
@@ -90,7 +129,7 @@ public final class ModelTest {
         switch (way) {
             case 0: case 1: return String.valueOf("uvwxyzpqr".charAt(pick(9)));
             case 2: return Integer.toString(pick(pick(3) == 0 ? 1000 : 12));
-            case 3: case 4: return "#" + pick(Math.max(1, desk.nodes() + (pick(6) == 0 ? 2 : 0)));
+            case 3: case 4: return "#" + pick(Math.max(1, model.nodes() + (pick(6) == 0 ? 2 : 0)));
             case 5: return "-" + a;
             case 6: return "(" + a + ")";
             case 7: case 8: return "A(" + a + ")";
@@ -105,7 +144,7 @@ public final class ModelTest {
     }
 
     private int node() {
-        return pick(desk.nodes() + 2) - (pick(20) == 0 ? 1 : 0);
+        return pick(model.nodes() + 2) - (pick(20) == 0 ? 1 : 0);
     }
 
     private void change() {
@@ -115,43 +154,59 @@ public final class ModelTest {
         int v = pick(3) == 0 ? pick(2000003) - 1000001 : pick(44) - 22;
         switch (pick(12)) {
             case 0:
-                CHECK.due("objective(" + a + ", " + flag + ")", desk.objective(a, flag), model.objective(a, flag));
+                same("objective(" + a + ", " + flag + ")", desk.objective(a, flag), model.objective(a, flag));
                 break;
             case 1:
                 boolean same = flag && pick(2) == 0;
-                CHECK.due("require(" + same + ", " + a + ", " + b + ")", desk.require(same, a, b),
+                same("require(" + same + ", " + a + ", " + b + ")", desk.require(same, a, b),
                         model.require(same, a, b));
                 break;
             case 2:
             case 3:
                 int j = pick(8) - 1;
-                CHECK.due("withdraw(" + j + ")", desk.withdraw(j), model.withdraw(j));
+                same("withdraw(" + j + ")", desk.withdraw(j), model.withdraw(j));
                 break;
             case 4:
             case 5:
-                CHECK.due("lift()", desk.lift(), model.lift());
+                same("lift()", desk.lift(), model.lift());
                 break;
             case 6:
             case 7:
-                CHECK.due("compile()", desk.compile(), model.compile());
+                same("compile()", desk.compile(), model.compile());
                 break;
             default:
-                CHECK.due("set(" + a + ", " + v + ")", desk.set(a, v), model.set(a, v));
+                same("set(" + a + ", " + v + ")", desk.set(a, v), model.set(a, v));
                 break;
         }
     }
 
     private void ask() {
-        CHECK.due("fits()", desk.fits(), model.fits());
-        CHECK.due("cost()", desk.cost(), model.cost());
-        CHECK.due("feasible()", desk.feasible(), model.feasible());
         int k = node();
-        CHECK.due("value(" + k + ")", desk.value(k), model.value(k));
-        CHECK.due("column(" + k + ")", desk.column(k), model.column(k));
-        int cone = pick(5) - 1;
-        CHECK.due("rows(" + cone + ")", desk.rows(cone), model.rows(cone));
-        int row = pick(desk.rows(0) + desk.rows(1) + desk.rows(2) + 4) - 2;
-        int column = pick(12) - 2;
-        CHECK.due("entry(" + row + ", " + column + ")", desk.entry(row, column), model.entry(row, column));
+        switch (pick(8)) {
+            case 0:
+                same("fits()", desk.fits(), model.fits());
+                break;
+            case 1:
+                same("cost()", desk.cost(), model.cost());
+                break;
+            case 2:
+                same("feasible()", desk.feasible(), model.feasible());
+                break;
+            case 3:
+                same("value(" + k + ")", desk.value(k), model.value(k));
+                break;
+            case 4:
+                same("column(" + k + ")", desk.column(k), model.column(k));
+                break;
+            case 5:
+                int cone = pick(5) - 1;
+                same("rows(" + cone + ")", desk.rows(cone), model.rows(cone));
+                break;
+            default:
+                int row = pick(model.rows(0) + model.rows(1) + model.rows(2) + 4) - 2;
+                int column = pick(12) - 2;
+                same("entry(" + row + ", " + column + ")", desk.entry(row, column), model.entry(row, column));
+                break;
+        }
     }
 }

@@ -23,13 +23,13 @@ public final class ProblemTest {
     }
 
     /** x, A(x), y, L(x,y), x*y, 1 above it, 2. */
-    private static ConeForms desk() {
-        return Check.deskOf("A(x)", "L(x,y)", "x*y", "-#4", "2");
+    private static Desk desk() {
+        return Desk.of("A(x)", "L(x,y)", "x*y", "-#4", "2");
     }
 
     private static void objectives() {
         CHECK.about("promise 11");
-        ConeForms desk = desk();
+        Desk desk = desk();
         CHECK.due("nodes()", desk.nodes(), 7);
         for (int k : NO_NODES) {
             CHECK.due("objective(" + k + ", true)", desk.objective(k, true), false);
@@ -48,7 +48,7 @@ public final class ProblemTest {
 
     private static void requirements() {
         CHECK.about("promise 12");
-        ConeForms desk = desk();
+        Desk desk = desk();
         for (int k : NO_NODES) {
             CHECK.due("require(false, " + k + ", 0)", desk.require(false, k, 0), false);
             CHECK.due("require(true, 0, " + k + ")", desk.require(true, 0, k), false);
@@ -70,7 +70,7 @@ public final class ProblemTest {
 
     private static void withdrawals() {
         CHECK.about("promise 13");
-        ConeForms desk = Check.deskOf("x", "1", "2", "3", "4");
+        Desk desk = Desk.of("x", "1", "2", "3", "4");
         for (int k = 1; k <= 4; k++) {
             desk.require(k == 2, X, k);
         }
@@ -95,7 +95,7 @@ public final class ProblemTest {
     }
 
     private static void compilesWith(int k, boolean least, int want) {
-        ConeForms desk = desk();
+        Desk desk = desk();
         desk.objective(k, least);
         CHECK.due("compile() with objective(" + k + ", " + least + ")", desk.compile(), want);
         CHECK.due("lift(): whether a form stands", desk.lift(), want >= 0);
@@ -117,7 +117,7 @@ public final class ProblemTest {
     }
 
     private static void compilesRequiring(boolean same, int a, int b, int want) {
-        ConeForms desk = desk();
+        Desk desk = desk();
         desk.objective(NUMBER, true);
         desk.require(same, a, b);
         CHECK.due("compile() with require(" + same + ", " + a + ", " + b + ")", desk.compile(), want);
@@ -144,7 +144,7 @@ public final class ProblemTest {
 
     private static void firstPartDecides() {
         CHECK.about("promise 14, first part");
-        ConeForms desk = desk();
+        Desk desk = desk();
         desk.require(false, X, CONVEX);
         desk.require(false, CONCAVE, X);
         CHECK.due("no objective comes before culprits", desk.compile(), -1);
@@ -160,7 +160,7 @@ public final class ProblemTest {
 
     private static void formStandsAndDrops() {
         CHECK.about("promise 14, how long it stands");
-        ConeForms desk = desk();
+        Desk desk = desk();
         desk.objective(CONVEX, true);
         desk.compile();
         CHECK.due("objective of no node", desk.objective(7, true), false);
@@ -168,7 +168,7 @@ public final class ProblemTest {
         desk.require(false, 7, 0);
         desk.withdraw(0);
         CHECK.due("fits(): refused calls do not drop it", desk.fits(), true);
-        Check.read(desk, "M(x,y)+u");
+        desk.read("M(x,y)+u");
         CHECK.due("fits(): reading does not drop it", desk.fits(), true);
         CHECK.due("column of a node made later", desk.column(7), -1);
         CHECK.about("promise 12");
@@ -188,7 +188,7 @@ public final class ProblemTest {
 
     private static void compileAgain() {
         CHECK.about("promise 14, own values");
-        ConeForms desk = desk();
+        Desk desk = desk();
         desk.objective(CONVEX, true);
         desk.compile();
         desk.set(CONVEX, 9);
@@ -202,7 +202,7 @@ public final class ProblemTest {
 
     private static void feasibility() {
         CHECK.about("promise 21");
-        ConeForms desk = desk();
+        Desk desk = desk();
         CHECK.due("feasible() without requirements", desk.feasible(), true);
         desk.require(false, X, NUMBER);
         CHECK.due("0 <= 2", desk.feasible(), true);

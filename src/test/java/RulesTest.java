@@ -24,8 +24,8 @@ public final class RulesTest {
     }
 
     private static void is(String text, int attributes) {
-        ConeForms desk = new ConeForms();
-        int node = Check.read(desk, text);
+        Desk desk = new Desk();
+        int node = desk.read(text);
         CHECK.due("attributes of " + text, desk.attributes(node), attributes);
     }
 
@@ -170,8 +170,8 @@ public final class RulesTest {
     }
 
     private static void reaches(String text, int reach) {
-        ConeForms desk = new ConeForms();
-        int node = Check.read(desk, text);
+        Desk desk = new Desk();
+        int node = desk.read(text);
         CHECK.due("reach of " + text, desk.reach(node), reach);
     }
 
@@ -200,18 +200,18 @@ public final class RulesTest {
 
     private static void culprits() {
         CHECK.about("promise 10");
-        ConeForms desk = Check.deskOf("x*y", "z*u", "A(x)");
+        Desk desk = Desk.of("x*y", "z*u", "A(x)");
         CHECK.due("nodes()", desk.nodes(), 7);
         CHECK.due("culprit(6): ABS is CONVEX", desk.culprit(6), -1);
         CHECK.due("culprit(0): a variable", desk.culprit(0), -1);
         CHECK.due("culprit(2): itself", desk.culprit(2), 2);
-        int sum = Check.read(desk, "#5+#2");
+        int sum = desk.read("#5+#2");
         CHECK.due("the first argument's", desk.culprit(sum), 5);
-        int greater = Check.read(desk, "M(x,#2)");
+        int greater = desk.read("M(x,#2)");
         CHECK.due("the only one's", desk.culprit(greater), 2);
-        int deep = Check.read(desk, "P(x,-#" + greater + ",#5)");
+        int deep = desk.read("P(x,-#" + greater + ",#5)");
         CHECK.due("all below the first before the next", desk.culprit(deep), 2);
-        int mixed = Check.read(desk, "L(#6,#5)");
+        int mixed = desk.read("L(#6,#5)");
         CHECK.due("no offender itself", desk.culprit(mixed), 5);
         CHECK.due("and without blame", desk.attributes(mixed) / BLAME, 0);
         doubledChain();
@@ -219,18 +219,18 @@ public final class RulesTest {
 
     /** A walk that goes down both arguments of each of these nodes would never end. */
     private static void doubledChain() {
-        ConeForms desk = Check.deskOf("A(x)");
+        Desk desk = Desk.of("A(x)");
         for (int k = 1; k < 33; k++) {
-            Check.read(desk, "M(#" + k + ",#" + k + ")");
+            desk.read("M(#" + k + ",#" + k + ")");
         }
         CHECK.due("nodes()", desk.nodes(), 34);
-        int offender = Check.read(desk, "L(x,#33)");
+        int offender = desk.read("L(x,#33)");
         CHECK.due("culprit of the chain's end", desk.culprit(offender), offender);
         CHECK.due("attributes", desk.attributes(offender), UNKNOWN + BOTH + 2 * BLAME);
     }
 
     private static void noSuchNode() {
-        ConeForms desk = Check.deskOf("x*y");
+        Desk desk = Desk.of("x*y");
         for (int k : new int[] {-1, 3, 35, 36, 37, 1000, Integer.MIN_VALUE, Integer.MAX_VALUE}) {
             CHECK.about("promise 6");
             CHECK.due("attributes(" + k + ")", desk.attributes(k), -1);

@@ -12,7 +12,7 @@ public final class ValueTest {
     }
 
     private static void range(String letter, int least, int greatest) {
-        ConeForms desk = Check.deskOf(letter);
+        Desk desk = Desk.of(letter);
         CHECK.due("value(0) of " + letter + " at first", desk.value(0), 0);
         for (int v = -30; v <= 30; v++) {
             boolean within = v >= least && v <= greatest;
@@ -36,7 +36,7 @@ public final class ValueTest {
 
     private static void notToBeSet() {
         CHECK.about("promise 8");
-        ConeForms desk = Check.deskOf("5", "x", "x+5", "A(x)");
+        Desk desk = Desk.of("5", "x", "x+5", "A(x)");
         CHECK.due("set of a number", desk.set(0, 5), false);
         CHECK.due("set of a sum", desk.set(2, 0), false);
         CHECK.due("set of an ABS without a form", desk.set(3, 0), false);
@@ -49,7 +49,7 @@ public final class ValueTest {
 
     private static void ownValues() {
         CHECK.about("promise 8");
-        ConeForms desk = Check.deskOf("A(x)", "S(x)", "A(p)+#1", "#1+1");
+        Desk desk = Desk.of("A(x)", "S(x)", "A(p)+#1", "#1+1");
         int constant = 4;
         int sum = 5;
         CHECK.due("set(1, 3) without a form", desk.set(1, 3), false);
@@ -67,7 +67,7 @@ public final class ValueTest {
         CHECK.about("promise 9");
         CHECK.due("value(1) is not the own value", desk.value(1), 0);
         CHECK.about("promise 8");
-        int later = Check.read(desk, "M(x,2)");
+        int later = desk.read("M(x,2)");
         CHECK.due("set of a MAX read after compile", desk.set(later, 1), false);
         desk.objective(sum, true);
         CHECK.due("set(1, 3) after the form was dropped", desk.set(1, 3), false);
@@ -76,11 +76,11 @@ public final class ValueTest {
     }
 
     private static void kind(String text, int x, int y, int value) {
-        ConeForms desk = Check.deskOf("x", "y", "z");
+        Desk desk = Desk.of("x", "y", "z");
         desk.set(0, x);
         desk.set(1, y);
         desk.set(2, 3);
-        int node = Check.read(desk, text);
+        int node = desk.read(text);
         CHECK.due(text + " at x = " + x + ", y = " + y, desk.value(node), value);
     }
 
@@ -108,7 +108,7 @@ public final class ValueTest {
 
     private static void valuesFollow() {
         CHECK.about("promise 9");
-        ConeForms desk = Check.deskOf("p*x+q*S(y)-r");
+        Desk desk = Desk.of("p*x+q*S(y)-r");
         int whole = desk.nodes() - 1;
         CHECK.due("value at first", desk.value(whole), 0);
         CHECK.due("set(0, 3)", desk.set(0, 3), true);
@@ -123,6 +123,6 @@ public final class ValueTest {
         CHECK.due("value", desk.value(whole), -119);
         CHECK.due("set(0, 0)", desk.set(0, 0), true);
         CHECK.due("value", desk.value(whole), -59);
-        CHECK.due("a node made later has the value at once", desk.value(Check.read(desk, "-#" + whole)), 59);
+        CHECK.due("a node made later has the value at once", desk.value(desk.read("-#" + whole)), 59);
     }
 }
