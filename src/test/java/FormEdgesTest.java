@@ -14,6 +14,7 @@ public final class FormEdgesTest {
         columnsOutside();
         rowAndColumnOutside();
         constantInColumnMinusOne();
+        firstAndLastRowOfEachKind();
         costRowMinusOne();
         entryWithoutAForm();
         parametersAsTheyAreNow();
@@ -36,6 +37,7 @@ public final class FormEdgesTest {
         exactGreatRows();
         costWithoutAForm();
         costBeyondAnInt();
+        formOfAFullDesk();
         CHECK.finish();
     }
 
@@ -167,6 +169,47 @@ public final class FormEdgesTest {
         }
         CHECK.due("entry(-1, -1)", desk.entry(-1, -1), 11);
         CHECK.due("entry(7, -1)", desk.entry(7, -1), 0);
+        desk.set(0, 13);
+        desk.lift();
+        for (int row = 0; row < constants.length; row++) {
+            CHECK.due("entry(" + row + ", -1) whatever the columns' values", desk.entry(row, -1), constants[row]);
+        }
+    }
+
+    /** The row's constant, then its numbers for all columns. */
+    private static void row(Desk desk, int row, int... numbers) {
+        for (int column = -1; column < numbers.length - 1; column++) {
+            CHECK.due("entry(" + row + ", " + column + ")", desk.entry(row, column), numbers[column + 1]);
+        }
+        CHECK.due("entry(" + row + ") behind the last column", desk.entry(row, numbers.length - 1), 0);
+    }
+
+    private static void firstAndLastRowOfEachKind() {
+        CHECK.about("Terms, 'MAX: t - a, t - b; MIN: a - t, b - t; ABS: t - a, t + a; PAIRS: ..'; cone 2, 'three rows'");
+        Desk desk = least("M(x+1,y*2)");
+        row(desk, 0, -1, -1, 0, 1);
+        row(desk, 1, 0, 0, -2, 1);
+        row(desk, 2, 0, 0, 0, 0);
+        desk = Desk.of("L(x+1,y*2)");
+        desk.objective(desk.nodes() - 1, false);
+        desk.compile();
+        row(desk, 0, 1, 1, 0, -1);
+        row(desk, 1, 0, 0, 2, -1);
+        row(desk, 2, 0, 0, 0, 0);
+        desk = least("A(x*3-4)");
+        row(desk, 0, 4, -3, 1);
+        row(desk, 1, -4, 3, 1);
+        row(desk, 2, 0, 0, 0);
+        desk = least("P(x+1,2*y,z-4)");
+        row(desk, 0, -1, -1, -2, 0, 1);
+        row(desk, 1, 3, -1, 0, -1, 1);
+        row(desk, 2, 4, 0, -2, -1, 1);
+        row(desk, 3, 0, 0, 0, 0, 0);
+        desk = least("S(x*3-4)");
+        row(desk, 0, 1, 0, 1);
+        row(desk, 1, 1, 0, -1);
+        row(desk, 2, -8, 6, 0);
+        row(desk, 3, 0, 0, 0);
     }
 
     private static void costRowMinusOne() {
@@ -189,6 +232,12 @@ public final class FormEdgesTest {
         CHECK.about("promise 16, 'or no form stands'");
         Desk desk = Desk.busy();
         desk.require(true, 0, 0);
+        for (int end : ENDS) {
+            CHECK.due("entry(" + end + ", -1)", desk.entry(end, -1), 0);
+            CHECK.due("entry(-1, " + end + ")", desk.entry(-1, end), 0);
+            CHECK.due("rows(" + end + ")", desk.rows(end), 0);
+            CHECK.due("column(" + end + ")", desk.column(end), -1);
+        }
         for (int row = -2; row <= 8; row++) {
             for (int column = -2; column <= 4; column++) {
                 CHECK.due("entry(" + row + ", " + column + ")", desk.entry(row, column), 0);
@@ -554,5 +603,28 @@ public final class FormEdgesTest {
         CHECK.due("cost() to be greatest", desk.cost(), 50000000000L);
         desk.set(5, OWN_LIMIT);
         CHECK.due("cost() to be greatest", desk.cost(), -50000000000L);
+    }
+
+    private static void formOfAFullDesk() {
+        CHECK.about("promises 8 and 14 to 21, with 36 nodes, the last an auxiliary");
+        Desk desk = Desk.full();
+        desk.objective(35, true);
+        desk.require(false, 19, 34);
+        CHECK.due("compile()", desk.compile(), 2);
+        CHECK.due("column(35)", desk.column(35), 1);
+        CHECK.due("rows(1)", desk.rows(1), 3);
+        row(desk, 0, 36, 1, 0);
+        row(desk, 1, 0, -1, 1);
+        row(desk, 2, 0, 1, 1);
+        CHECK.due("set(0, 20)", desk.set(0, 20), true);
+        CHECK.due("fits()", desk.fits(), false);
+        CHECK.due("lift()", desk.lift(), true);
+        CHECK.due("fits()", desk.fits(), true);
+        CHECK.due("cost()", desk.cost(), 20);
+        CHECK.due("set(35, 19)", desk.set(35, 19), true);
+        CHECK.due("fits()", desk.fits(), false);
+        CHECK.due("cost()", desk.cost(), 19);
+        CHECK.due("feasible()", desk.feasible(), true);
+        CHECK.refused("set(36, 0)", desk, d -> d.set(36, 0));
     }
 }

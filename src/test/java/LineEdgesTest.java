@@ -125,6 +125,16 @@ public final class LineEdgesTest {
         CHECK.due("nodes() of the other", other.nodes(), 11);
         CHECK.due("value(0) of the other", other.value(0), -7);
         CHECK.due("cost() of the other", other.cost(), 17);
+        Desk one = new Desk();
+        Desk two = new Desk();
+        for (int i = 1; i <= 3; i++) {
+            one.type((char) ('0' + i));
+            two.type((char) ('9' - i));
+        }
+        one.read();
+        two.read();
+        CHECK.due("value(0) of the line typed here", one.value(0), 123);
+        CHECK.due("value(0) of the line typed there", two.value(0), 876);
     }
 
     private static void charactersThatGo() {

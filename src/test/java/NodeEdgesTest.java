@@ -19,6 +19,7 @@ public final class NodeEdgesTest {
         signsOfPairs();
         allArgumentsConstant();
         neitherAboveNorBelow();
+        risesFallsOrNeither();
         productsOfTwo();
         blameOfNoOffender();
         blameOfEachPlace();
@@ -184,6 +185,26 @@ public final class NodeEdgesTest {
         is("A(0*A(x))", CONVEX);
         is("S(0*L(x,y))", UNKNOWN + BLAME);
         is("A(0*L(x,y))", UNKNOWN + BLAME);
+    }
+
+    private static void risesFallsOrNeither() {
+        CHECK.about("Terms, 'RISES in an argument, FALLS in it, or neither'");
+        is("y-A(x)", CONCAVE + BOTH);
+        is("A(x)-y", CONVEX + BOTH);
+        is("y-L(x,y)", CONVEX + BOTH);
+        is("-A(x)", CONCAVE + 2);
+        is("-L(x,y)", CONVEX + BOTH);
+        is("S(A(x))", CONVEX + 1);
+        is("S(-A(x))", CONVEX + 1);
+        is("A(-S(x))", CONVEX + 1);
+        is("S(A(x)+y)", UNKNOWN + 1 + BLAME);
+        is("S(L(-A(x),0))", CONVEX + 1);
+        is("p*A(x)", CONVEX + 1);
+        is("A(x)*q", CONCAVE + 2);
+        is("q*L(x,y)", CONVEX + BOTH);
+        is("r*A(x)", UNKNOWN + BOTH + 2 * BLAME);
+        is("M(A(x),-L(x,y))", CONVEX + 1);
+        is("L(-A(x),L(x,y))", CONCAVE + 2);
     }
 
     private static void productsOfTwo() {

@@ -25,6 +25,7 @@ public final class ProblemEdgesTest {
         wantedCurvatures();
         firstPartIsToBlame();
         ownValuesBecomeZero();
+        formMadeAgain();
         formStandsWhileReading();
         numberOfColumns();
         feasibleWithoutRequirements();
@@ -350,6 +351,33 @@ public final class ProblemEdgesTest {
         CHECK.due("cost() after the form was dropped and made", desk.cost(), 0);
         CHECK.due("value(0): compile leaves it", desk.value(0), -7);
         CHECK.due("value(5): compile leaves it", desk.value(5), 3);
+    }
+
+    private static void formMadeAgain() {
+        CHECK.about("promise 14, 'Makes the form .. (also when a form stood)': the same, and nothing of one before");
+        Desk desk = Desk.busy();
+        for (int times = 0; times < 3; times++) {
+            CHECK.due("compile()", desk.compile(), 4);
+            CHECK.due("rows(0)", desk.rows(0), 1);
+            CHECK.due("rows(1)", desk.rows(1), 4);
+            CHECK.due("rows(2)", desk.rows(2), 3);
+            CHECK.due("entry(7, 1)", desk.entry(7, 1), 2);
+            CHECK.due("entry(8, 1)", desk.entry(8, 1), 0);
+        }
+        for (int j = 0; j < 3; j++) {
+            desk.withdraw(0);
+        }
+        desk.objective(0, true);
+        CHECK.due("compile() of x alone", desk.compile(), 1);
+        for (int cone = 0; cone < 3; cone++) {
+            CHECK.due("rows(" + cone + ")", desk.rows(cone), 0);
+        }
+        for (int k = 1; k < 11; k++) {
+            CHECK.due("column(" + k + ")", desk.column(k), -1);
+        }
+        CHECK.due("entry(0, 0)", desk.entry(0, 0), 0);
+        CHECK.due("fits()", desk.fits(), true);
+        CHECK.due("cost()", desk.cost(), -7);
     }
 
     private static void formStandsWhileReading() {
