@@ -113,7 +113,7 @@ public final class FormEdgesTest {
     }
 
     private static void rowsOutside() {
-        CHECK.about("promise 16, '0 when there is no such row'");
+        CHECK.about("promise 16, 'no such row or column': the row");
         Desk desk = Desk.busy();
         for (int row : new int[] {-3, -2, 8, 9, 36, 113, 114, 115, 65536, 1 << 30}) {
             for (int column = -1; column < 4; column++) {
@@ -130,7 +130,7 @@ public final class FormEdgesTest {
     }
 
     private static void columnsOutside() {
-        CHECK.about("promise 16, '0 when there is no such column'");
+        CHECK.about("promise 16, 'no such row or column': the column");
         Desk desk = least("7+x+A(x)");
         for (int column : new int[] {-3, -2, 2, 3, 35, 36, 37, 65536, 1 << 30}) {
             for (int row = -1; row < 2; row++) {
@@ -147,7 +147,7 @@ public final class FormEdgesTest {
     }
 
     private static void rowAndColumnOutside() {
-        CHECK.about("promise 16, '0 when there is no such row or column'");
+        CHECK.about("promise 16, 'no such row or column': both");
         Desk desk = least("7+x+A(x)");
         for (int row : new int[] {Integer.MIN_VALUE, -2, 2, Integer.MAX_VALUE}) {
             for (int column : new int[] {Integer.MIN_VALUE, -2, 2, Integer.MAX_VALUE}) {

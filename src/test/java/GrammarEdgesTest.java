@@ -52,7 +52,7 @@ public final class GrammarEdgesTest {
     }
 
     private static void whatMayFollow() {
-        CHECK.about("promise 4, 'some expression begins with the first p characters of the line'");
+        CHECK.about("promise 4, 'some expression, of any length, begins with the first p characters of the line'");
         for (String before : new String[] {"", "-", "--", "(", "((", "-(", "x+", "x-", "x*", "x--", "1+", "#1*",
             "A(", "S(", "M(", "L(", "P(", "M(x,", "L(x,", "P(x,", "P(x,y,", "(x)*", "A(x)-"}) {
             follows(before, STARTS);
