@@ -2,7 +2,8 @@
 public final class FormEdgesTest {
     private static final Check CHECK = new Check();
     private static final int OWN_LIMIT = 1000000;
-    private static final int[] ENDS = {Integer.MIN_VALUE, Integer.MIN_VALUE + 1, Integer.MAX_VALUE - 1, Integer.MAX_VALUE};
+    private static final int[] ENDS = {Integer.MIN_VALUE, Integer.MIN_VALUE + 1, Integer.MAX_VALUE - 1,
+        Integer.MAX_VALUE};
 
     public static void main(String[] args) {
         otherCones();
@@ -185,7 +186,7 @@ public final class FormEdgesTest {
     }
 
     private static void firstAndLastRowOfEachKind() {
-        CHECK.about("Terms, 'MAX: t - a, t - b; MIN: a - t, b - t; ABS: t - a, t + a; PAIRS: ..'; cone 2, 'three rows'");
+        CHECK.about("Terms, 'MAX: t - a, t - b; MIN: a - t, b - t; ABS: t - a, t + a; PAIRS' and cone 2's 'three rows'");
         Desk desk = least("M(x+1,y*2)");
         row(desk, 0, -1, -1, 0, 1);
         row(desk, 1, 0, 0, -2, 1);
@@ -467,7 +468,7 @@ public final class FormEdgesTest {
     }
 
     private static void coneTwoAtItsEdge() {
-        CHECK.about("Terms, 'the first must be at least 0 and its square at least the sum of the squares of the two others'");
+        CHECK.about("Terms, 'its square at least the sum of the squares of the two others'");
         Desk desk = least("S(x)");
         for (int x = -20; x <= 20; x++) {
             desk.set(0, x);

@@ -86,8 +86,8 @@ public final class GrammarEdgesTest {
 
     private static void endsTooEarly() {
         CHECK.about("promise 4, p is the line's length where the line is a beginning alone");
-        for (String text : new String[] {"", "-", "(", "#", "A", "S", "M", "L", "P", "x+", "x-", "x*", "(x", "A(", "A(x",
-            "S(", "S(x", "M(", "M(x", "M(x,", "M(x,y", "L(", "L(x", "L(x,", "L(x,y", "P(", "P(x", "P(x,", "P(x,y",
+        for (String text : new String[] {"", "-", "(", "#", "A", "S", "M", "L", "P", "x+", "x-", "x*", "(x", "A(",
+            "A(x", "S(", "S(x", "M(", "M(x", "M(x,", "M(x,y", "L(", "L(x", "L(x,", "L(x,y", "P(", "P(x", "P(x,", "P(x,y",
             "P(x,y,", "P(x,y,z", "x+#", "x*-", "((x)", "1+2+3+4+5+6+7+8+9+0+", "M(1,2)+L(3,4)*P(5,6"}) {
             CHECK.refused("read() of " + text, typed(text), Desk::read, -1 - text.length());
         }

@@ -1,8 +1,8 @@
 /** The edges that 'Terms' and promises 6, 7, 9 and 10 name: attributes, reach, value and culprit. */
 public final class NodeEdgesTest {
     private static final Check CHECK = new Check();
-    private static final int[] NO_NODE = {Integer.MIN_VALUE, Integer.MIN_VALUE + 1, -36, -2, -1, 11, 12, 35, 36, 37, 108,
-        65536, 1 << 30, Integer.MAX_VALUE};
+    private static final int[] NO_NODE = {Integer.MIN_VALUE, Integer.MIN_VALUE + 1, -36, -2, -1, 11, 12, 35, 36, 37,
+        108, 65536, 1 << 30, Integer.MAX_VALUE};
     private static final int AFFINE = 4;
     private static final int CONVEX = 8;
     private static final int CONCAVE = 12;
@@ -144,7 +144,7 @@ public final class NodeEdgesTest {
     }
 
     private static void signsOfPairs() {
-        CHECK.about("Terms, 'PAIRS: above if one of the three may be above, below if two or three of them may be below'");
+        CHECK.about("Terms, PAIRS 'above if one of the three may be above, below if two or three of them may be below'");
         for (char a : "0pqr".toCharArray()) {
             for (char b : "0pqr".toCharArray()) {
                 for (char c : "0pqr".toCharArray()) {

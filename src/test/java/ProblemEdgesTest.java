@@ -1,7 +1,8 @@
 /** The edges that 'Terms' and promises 11 to 14 and 21 name for the problem. */
 public final class ProblemEdgesTest {
     private static final Check CHECK = new Check();
-    private static final int[] NO_NODE = {Integer.MIN_VALUE, -36, -2, -1, 11, 12, 35, 36, 37, 1 << 30, Integer.MAX_VALUE};
+    private static final int[] NO_NODE = {Integer.MIN_VALUE, -36, -2, -1, 11, 12, 35, 36, 37, 1 << 30,
+        Integer.MAX_VALUE};
     private static final int MOST = 6;
 
     public static void main(String[] args) {
@@ -381,7 +382,7 @@ public final class ProblemEdgesTest {
     }
 
     private static void formStandsWhileReading() {
-        CHECK.about("promise 14, 'It stands till objective, require or withdraw drop it (reading more lines does not)'");
+        CHECK.about("promise 14, 'till objective, require or withdraw drop it (reading more lines does not)'");
         Desk desk = Desk.busy();
         int[] columns = {0, 2, 1, 3, -1, -1, -1, -1, -1, -1, -1};
         CHECK.due("read() of a line that is refused", desk.read(), -6);
