@@ -13,7 +13,7 @@ public final class ModelTest {
         "50*A(x)-7", "P(A(x),2,S(y))", "999*50*M(u,v)", "L(-A(x),y)", "S(p)*x", "2*x-3*y",
     };
 
-    private long seed;
+    private Chance chance;
     private int calls;
     private ConeForms desk;
     private Model model;
@@ -25,15 +25,9 @@ public final class ModelTest {
         CHECK.finish();
     }
 
-    /** A fixed series, so that each run of the test is the same. */
-    private int pick(int bound) {
-        seed = seed * 6364136223846793005L + 1442695040888963407L;
-        return (int) ((seed >>> 33) % bound);
-    }
-
     private void run(int number) {
         CHECK.about("run " + number);
-        seed = 77 + 1000003L * number;
+        chance = new Chance(77 + 1000003L * number);
         desk = new ConeForms();
         model = new Model();
         int style = number % 4;
@@ -43,6 +37,10 @@ public final class ModelTest {
         if (calls > CALLS) {
             throw new IllegalStateException("the test itself calls an object more than " + CALLS + " times");
         }
+    }
+
+    private int pick(int bound) {
+        return chance.pick(bound);
     }
 
     private void same(String call, long got, long want) {
@@ -76,7 +74,7 @@ public final class ModelTest {
         String text = text();
         if (pick(8) == 0 && !text.isEmpty()) {
             int at = pick(text.length());
-            text = text.substring(0, at) + TYPED.charAt(pick(TYPED.length())) + text.substring(at + pick(2));
+            text = text.substring(0, at) + chance.pick(TYPED) + text.substring(at + pick(2));
         }
         for (int i = 0; i < text.length(); i++) {
             char c = text.charAt(i);
@@ -98,7 +96,7 @@ public final class ModelTest {
         }
         String text = noise();
         for (int tries = 0; tries < 6 && way < 9; tries++) {
-            text = expression(2 + pick(3));
+            text = chance.expression(2 + pick(3), model.nodes());
             if (text.length() <= LINE) {
                 return text;
             }
@@ -117,30 +115,9 @@ public final class ModelTest {
         StringBuilder text = new StringBuilder();
         int length = pick(LINE + 3);
         for (int i = 0; i < length; i++) {
-            text.append(TYPED.charAt(pick(TYPED.length())));
+            text.append(chance.pick(TYPED));
         }
         return text.toString();
-    }
-
-    private String expression(int depth) {
-        int way = depth == 0 ? pick(5) : pick(16);
-        String a = way < 5 ? "" : expression(depth - 1);
-        String b = way < 10 ? "" : expression(depth - 1);
-        switch (way) {
-            case 0: case 1: return String.valueOf("uvwxyzpqr".charAt(pick(9)));
-            case 2: return Integer.toString(pick(pick(3) == 0 ? 1000 : 12));
-            case 3: case 4: return "#" + pick(Math.max(1, model.nodes() + (pick(6) == 0 ? 2 : 0)));
-            case 5: return "-" + a;
-            case 6: return "(" + a + ")";
-            case 7: case 8: return "A(" + a + ")";
-            case 9: return "S(" + a + ")";
-            case 10: return a + "+" + b;
-            case 11: return a + "-" + b;
-            case 12: return a + "*" + b;
-            case 13: return "M(" + a + "," + b + ")";
-            case 14: return "L(" + a + "," + b + ")";
-            default: return "P(" + a + "," + b + "," + expression(0) + ")";
-        }
     }
 
     private int node() {
