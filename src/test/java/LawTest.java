@@ -154,7 +154,7 @@ public final class LawTest {
 
     /** With some auxiliaries off their nodes' values, so that rows differ from what the nodes say. */
     private void rowsAreSums() {
-        CHECK.about("Terms, 'A row's value is its constant and the sum of its numbers times the values of the columns'");
+        CHECK.about("Terms, 'its constant and the sum of its numbers times the values of the columns'");
         long[] at = new long[NODES];
         int columns = 0;
         for (int k = 0; k < count; k++) {
